@@ -14,6 +14,8 @@ public final class ModelTest {
         30, 30, 40, 40, 10, 20, 10, 8, 10, 20, 0};
 
     private static long x;
+    /** Of what sort the run is: 0 weak dishes of few smells for the homesick, 1 notes that agree, 2 texts, 3 any. */
+    private static int sort;
 
     private ModelTest() {
     }
@@ -29,8 +31,9 @@ public final class ModelTest {
         int[] called = new int[NAMES.length];
         for (int run = 0; run < RUNS; run++) {
             x = 77 + 1000003L * run;
+            sort = run % 4;
             check.part("run " + run);
-            oneRun(check, run, called);
+            oneRun(check, called);
         }
         for (int i = 0; i < NAMES.length; i++) {
             check.holds(NAMES[i] + " was called", called[i] > 0 || NAMES[i].equals("digest"));
@@ -38,12 +41,17 @@ public final class ModelTest {
         check.end();
     }
 
-    private static void oneRun(Check check, int run, int[] called) {
+    private static void oneRun(Check check, int[] called) {
         KitchenSiege siege = new KitchenSiege();
         Model model = new Model();
         int calls = 0;
         while (calls < CALLS) {
-            int call = run % 4 == 3 && draw(25) == 0 ? 6 : pick();
+            int call = sort == 2 && draw(25) == 0 ? 6 : pick();
+            if (sort == 0 && call == 9 && draw(3) > 0) {
+                call = 15;
+            } else if (sort == 0 && call == 10 && draw(20) == 0) {
+                call = 0;
+            }
             if (call == 6) {
                 calls += typeText(check, siege, model);
                 called[6]++;
@@ -52,6 +60,9 @@ public final class ModelTest {
             int[] a = new int[5];
             for (int i = 0; i < TAKES[call]; i++) {
                 a[i] = argument(call, i, siege);
+            }
+            if (sort == 1 && call == 20 && draw(8) > 0) {
+                agree(a, siege);
             }
             String told = NAMES[call] + java.util.Arrays.toString(java.util.Arrays.copyOf(a, TAKES[call]));
             check.due(told + " as call " + calls, ask(siege, call, a), ask(model, call, a));
@@ -62,6 +73,15 @@ public final class ModelTest {
         for (int i = 0; i < 3; i++) {
             check.due("status " + i, siege.status(i), model.status(i));
         }
+    }
+
+    /** Makes a note one of a street that craves what its number tells. */
+    private static void agree(int[] a, KitchenSiege siege) {
+        if (a[0] < 0 || a[0] >= siege.count(0)) {
+            return;
+        }
+        a[2] = 3 + draw(draw(2) == 0 ? 10 : 25);
+        a[4] = Model.nose(siege.of(a[0], 0), a[0] % 6, a[1], a[2], a[3], 0) >= 10 ? 1 : 0;
     }
 
     private static int pick() {
@@ -86,16 +106,16 @@ public final class ModelTest {
         int street = draw(Math.max(1, siege.count(0)));
         int dish = draw(Math.max(1, siege.count(1)));
         switch (NAMES[call]) {
-            case "street": return i == 1 ? draw(draw(3) == 0 ? 10 : 3) : draw(6);
+            case "street": return i == 1 ? draw(draw(3) == 0 ? 10 : 3) : i == 0 && sort == 0 && draw(2) == 0 ? 5 : draw(6);
             case "lane": case "craved": case "is": return street;
             case "gate": return i == 0 ? draw(4) : street;
             case "wind": return draw(4);
-            case "dish": return i == 0 ? draw(6) : i == 1 ? 1 + draw(30) : draw(draw(2) == 0 ? 3 : 10);
+            case "dish": return i == 0 ? draw(sort == 0 ? 2 : 6) : i == 1 ? 1 + draw(sort == 0 ? 13 : 30) : draw(draw(2) == 0 ? 3 : 10);
             case "day": return dish - draw(2) * draw(2);
             case "of": return i == 0 ? street : draw(6);
             case "smells": return i == 0 ? dish : i == 1 ? draw(4) : street;
             case "moved": case "falls": return i == 0 ? dish : street;
-            case "order": return i == 0 ? street : draw(6) - 2;
+            case "order": return i == 0 ? street : draw(7) - 2;
             case "answer": return i == 0 ? dish : i == 1 ? draw(10) : draw(2);
             case "game": return draw(10);
             case "note": return new int[] {street, draw(6), 1 + draw(draw(2) == 0 ? 60 : 25), draw(100), draw(2)}[i];
