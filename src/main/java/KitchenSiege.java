@@ -438,14 +438,10 @@ public final class KitchenSiege {
         void begin() {
             day = 0;
             for (int street = 0; street < STREETS; street++) {
-                shut(street);
+                since[street] = NONE;
+                smelt[street] = NONE;
+                onEnd[street] = 0;
             }
-        }
-
-        void shut(int street) {
-            since[street] = NONE;
-            smelt[street] = NONE;
-            onEnd[street] = 0;
         }
 
         void copy(Days other) {
@@ -641,7 +637,6 @@ public final class KitchenSiege {
             kind[street] = itsKind;
             wall[street] = itsWall;
             craves[street] = itCraves;
-            days.shut(street);
             streets++;
             // The past days know nothing of the new street.
             undoable = 0;

@@ -41,8 +41,10 @@ public final class PromiseTest {
         begin(15); moved();
         begin(15); movedByKinds();
         begin(16); falls();
+        begin(16); fallsAnew();
         begin(17); order();
         begin(17); orderOfTies();
+        begin(17); orderByDays();
         begin(18); never();
         begin(19); least();
         begin(19); leastByDays();
@@ -58,12 +60,14 @@ public final class PromiseTest {
         begin(26); tryNext();
         begin(27); rain();
         begin(28); sieges();
+        begin(28); siegesAsDays();
     }
 
     private static void promises29To34() {
         begin(29); part();
         begin(30); image();
         begin(31); from();
+        begin(31); fromAnotherTown();
         begin(32); status();
         begin(33); count();
         begin(34); digest();
@@ -306,6 +310,13 @@ public final class PromiseTest {
         fault("town;street 0 0 0 ", 18);
         fault("town;street 0 0 0", 17);
         fault("street 0 0 0;", 0);
+        fault("lane 0 1;", 0);
+        fault("gate 0 0;", 0);
+        fault("wind 0 0;", 0);
+        fault("dish 0 1 0;", 0);
+        fault("zown;", 0);
+        fault("townz;", 0);
+        fault("towm;", 0);
         fault(";", 0);
         fault("7", 0);
         fault(" 123", 1);
@@ -364,7 +375,7 @@ public final class PromiseTest {
         x.gate(1, 2);
         x.wind(1, 3);
         x.day(0);
-        due("read", readOf("town;street 5 4 3;street 0 0 0;"), 3);
+        due("read", readOf("town;street 5 4 3;street 0 0 0;gate 2 0;wind 3 3;"), 5);
         due("streets", x.count(0), 2);
         due("dishes", x.count(1), 0);
         due("day", x.count(2), 0);
@@ -659,6 +670,33 @@ public final class PromiseTest {
         due("nothing has changed", x.count(2) + x.count(3) + x.count(5), 0);
     }
 
+    /** Where the smell does not come for a day, it is smelt from none ahead again. */
+    private static void fallsAnew() {
+        x.street(5, 0, 5);
+        x.street(0, 0, 5);
+        x.gate(1, 1);
+        x.gate(3, 1);
+        x.dish(1, 16, 0);
+        due("8, 0, 8, 0", x.falls(0, 0), NONE);
+        x.gate(3, 0);
+        due("8, 0, 8, 10", x.falls(0, 0), 4);
+        x.town();
+        x.street(5, 0, 1);
+        x.dish(1, 1, 0);
+        due("1 craved: 1, 3, 5, 7, 9, 11", x.falls(0, 0), 6);
+        x.town();
+        x.street(3, 0, 5);
+        x.street(0, 0, 5);
+        for (int w = 0; w < 4; w++) {
+            x.gate(w, w == 1 ? 0 : 1);
+        }
+        x.dish(1, 10, 0);
+        for (int i = 0; i < 5; i++) {
+            x.day(NONE);
+        }
+        due("not on day 5, but on day 9", x.falls(0, 0), 5);
+    }
+
     private static void order() {
         due("not there", x.order(0, 0), BAD_TEN);
         x.street(5, 0, 5);
@@ -727,6 +765,43 @@ public final class PromiseTest {
         due("wind 1 comes elsewhere: none, 4, 6, 8", x.order(0, NONE), NONE);
     }
 
+    private static void orderByDays() {
+        x.street(0, 0, 5);
+        x.dish(1, 10, 3);
+        x.dish(1, 11, 3);
+        due("by dish 0", x.order(0, NONE), 1);
+        due("the first", x.order(0, 0), 0);
+        x.town();
+        x.street(3, 0, 5);
+        x.street(0, 0, 5);
+        x.gate(0, 1);
+        x.dish(1, 10, 1);
+        x.dish(2, 10, 1);
+        for (int i = 0; i < 4; i++) {
+            x.day(NONE);
+        }
+        due("day 4 elsewhere, day 5 pious: two dishes are too few", x.order(0, NONE), NONE);
+        x.dish(3, 1, 7);
+        due("on day 6", x.order(0, NONE), 3);
+        due("all their butter", x.order(0, -2), 9);
+        due("the first row that ends so", x.order(0, 0) + 10 * x.order(0, 1) + 100 * x.order(0, 2), 120);
+        due("the other street now", x.order(1, NONE), 1);
+        x.town();
+        x.street(5, 0, 5);
+        x.dish(1, 1, 0);
+        x.dish(1, 16, 0);
+        due("1 is smelt, too: 0, 8 and 2", x.order(0, NONE), 2);
+        due("the weak one first", x.order(0, 0), 0);
+        x.town();
+        x.street(5, 0, 5);
+        x.dish(2, 16, 0);
+        x.dish(1, 16, 0);
+        due("another smell between does not count", x.order(0, NONE), NONE);
+        x.day(1);
+        due("what was smelt ahead does", x.order(0, NONE), 1);
+        due("by 1", x.order(0, 0), 1);
+    }
+
     private static void never() {
         due("no streets", x.never(), 0);
         x.street(0, 0, 5);
@@ -772,6 +847,13 @@ public final class PromiseTest {
         due("0 is open: the other by 0", x.least(), 1);
         x.day(3);
         due("none is shut", x.least(), 0);
+        x.town();
+        threeInARow(0, 0, 0);
+        x.dish(1, 14, 9);
+        due("one dish for three", x.least(), 1);
+        x.dish(1, 12, 1);
+        x.dish(1, 13, 1);
+        due("the last by 0 alone", x.least(), 1);
     }
 
     /** The pious shut their noses on day 5: of days 2 .. 5 that is the one with wind 1. */
@@ -790,9 +872,11 @@ public final class PromiseTest {
         x.day(NONE);
         due("day 5 is one of 2 .. 5", x.least(), NONE);
         due("but of the next 28 not the only one", x.never(), 0);
-        for (int i = 0; i < 4; i++) {
+        for (int i = 0; i < 3; i++) {
             x.day(NONE);
         }
+        due("day 5 is the first of 5 .. 8", x.least(), NONE);
+        x.day(NONE);
         due("day 9 is one of 6 .. 9", x.least(), 2);
         x.town();
         x.street(5, 0, 5);
@@ -831,6 +915,16 @@ public final class PromiseTest {
         due("10 in the last", x.count(3), 3);
         due("none is shut", x.answer(0, 9, 0), NONE);
         due("none is shut", x.answer(0, 9, 1), NONE);
+        x.town();
+        x.dish(0, 30, 0);
+        for (int i = 0; i < 8; i++) {
+            x.street(0, 0, 0);
+        }
+        for (int i = 1; i < 8; i++) {
+            x.lane(0, i);
+        }
+        due("eight open, the least", x.answer(0, 0, 0), 0);
+        due("eight", x.answer(0, 0, 1), 8);
     }
 
     private static void game() {
@@ -906,6 +1000,10 @@ public final class PromiseTest {
         due("none: day 96 is such a day", x.craved(2), 0);
         due("street 3", x.craved(3), BAD);
         due("street -1", x.craved(-1), BAD);
+        x.street(5, 0, 3);
+        x.forget();
+        x.note(3, 2, 19, 0, 0);
+        due("9, smelt on none ahead; craved 19", x.craved(3), 59);
     }
 
     private static void is() {
@@ -1016,6 +1114,31 @@ public final class PromiseTest {
         due("nothing has changed", x.count(3) + x.count(2) + x.count(5), 3);
     }
 
+    /** The sieges of some seeds, each lived through by days drawn here. */
+    private static void siegesAsDays() {
+        type("town;street 0 3 0;street 1 0 1;street 5 0 2;street 3 1 3;street 2 9 4;");
+        type("lane 0 1;lane 1 2;lane 2 3;lane 3 4;gate 1 2;gate 2 4;dish 1 9 0;dish 2 12 0;dish 4 11 0;");
+        x.read();
+        x.day(1);
+        x.image(0);
+        int[] seeds = {0, 1, 77, 4711, 123456, 999999};
+        for (int seed : seeds) {
+            long state = seed;
+            x.from(0);
+            for (int n = 0; n <= 60; n++) {
+                int open = x.count(3);
+                x.from(0);
+                due("sieges(" + seed + ", " + n + ")", x.sieges(seed, n), open);
+                state = seed;
+                for (int k = 0; k <= n; k++) {
+                    state = (state * 1103515245L + 12345L) & 0x7fffffffL;
+                    int dish = (int) ((state >> 16) % 7);
+                    x.day(dish < 3 ? dish : NONE);
+                }
+            }
+        }
+    }
+
     private static void part() {
         due("above", x.part(0), 0);
         due("below", x.part(1), 1);
@@ -1084,6 +1207,42 @@ public final class PromiseTest {
         due("the fraction stays", x.part(0), 1);
         due("the status stays", x.status(0), 2);
         due("noes", x.status(1), 2);
+    }
+
+    private static void fromAnotherTown() {
+        type("town;street 0 1 2;street 5 0 1;street 4 2 5;lane 0 1;lane 2 1;gate 1 2;wind 2 3;dish 1 17 2;dish 3 30 9;");
+        due("read", x.read(), 10);
+        x.note(2, 3, 4, 5, 1);
+        x.note(1, 2, 3, 4, 0);
+        for (int i = 0; i < 5; i++) {
+            x.day(i % 3 - 1);
+        }
+        long[] digests = new long[6];
+        x.image(0);
+        for (int i = 0; i < 6; i++) {
+            digests[i] = x.digest();
+            due("undo", x.undo(), i < 5 ? 4 - i : NO);
+        }
+        x.clear();
+        type("town;street 1 2 3;street 2 3 4;street 3 4 0;street 0 0 0;lane 0 2;gate 0 1;gate 2 3;wind 0 1;");
+        type("dish 0 20 1;dish 2 3 4;dish 5 6 7;");
+        x.read();
+        x.note(0, 1, 2, 3, 0);
+        x.note(1, 5, 6, 7, 1);
+        x.note(2, 5, 6, 7, 1);
+        for (int i = 0; i < 9; i++) {
+            x.day(2 - i % 3);
+        }
+        x.image(1);
+        int bytes = x.count(6);
+        x.from(0);
+        x.clear();
+        type("town;street 0 1 2;street 5 0 1;street 4 2 5;lane 0 1;lane 2 1;gate 1 2;wind 2 3;dish 1 17 2;dish 3 30 9;");
+        for (int i = 0; i < 6; i++) {
+            due("as it was", x.digest(), digests[i]);
+            x.undo();
+        }
+        CHECK.holds("the text was another", bytes != x.count(6));
     }
 
     private static void status() {
