@@ -416,8 +416,8 @@ public final class KitchenSiege {
                 case PLAIN: return plain;
                 case COLD: return cold;
                 case ONION_EATERS: return onionEaters;
-                case PIOUS: return Math.floorMod(day, WEEK) == FAST_DAY ? 0 : plain;
-                case BAKERS: return Math.max(0, onionEaters - FLOUR);
+                case PIOUS: return day % WEEK == FAST_DAY ? 0 : plain;
+                case BAKERS: return onionEaters > FLOUR ? onionEaters - FLOUR : 0;
                 case HOMESICK: return cold > 0 ? cold + BY_DAY_OF_HOME * ahead : 0;
                 default: return 0;
             }
@@ -1275,22 +1275,19 @@ public final class KitchenSiege {
                     place++;
                 }
             } else if (isFigure(text[place])) {
-                takeNumber();
+                value = 0;
+                while (place < length && isFigure(text[place])) {
+                    // Of a number too long the value is not used; it is kept from running over.
+                    if (place - start < MOST_FIGURES) {
+                        value = 10 * value + text[place] - '0';
+                    }
+                    place++;
+                }
+                token = place - start > MOST_FIGURES ? WRONG : NUMBER;
             } else {
                 token = text[place] == ';' ? SEMICOLON : WRONG;
                 place++;
             }
-        }
-
-        private void takeNumber() {
-            value = 0;
-            while (place < length && isFigure(text[place])) {
-                if (place - start < MOST_FIGURES) {
-                    value = 10 * value + text[place] - '0';
-                }
-                place++;
-            }
-            token = place - start > MOST_FIGURES ? WRONG : NUMBER;
         }
 
         private int word() {
