@@ -777,6 +777,8 @@ public final class KitchenSiege {
     /** What is reckoned from a town, which it never changes but for the days that pass is given. */
     private static final class Cook {
         private static final int SIDES = DISHES + 1, ANSWERS = STREETS + 1;
+        private static final long SEED_TIMES = 1103515245, SEED_MORE = 12345, SEED_OF = 2147483648L;
+        private static final long SEED_CUT = 65536, SEED_DISHES = 7;
 
         /** The row that findRow found, and what it costs. */
         final int[] best = new int[LONGEST_ROW];
@@ -1071,8 +1073,8 @@ public final class KitchenSiege {
             trial.copy(town.days);
             long x = seed;
             for (int k = 0; k < n; k++) {
-                x = (x * 1103515245L + 12345L) % 2147483648L;
-                int dish = (int) (x / 65536 % 7);
+                x = (x * SEED_TIMES + SEED_MORE) % SEED_OF;
+                int dish = (int) (x / SEED_CUT % SEED_DISHES);
                 pass(trial, dish < town.dishes ? dish : NONE);
             }
             return trial.openOf(town.streets);
