@@ -1103,7 +1103,7 @@ public final class PromiseTest {
         for (int w = 0; w < 4; w++) {
             x.gate(w, w);
         }
-        // From 0 on X by 65536 is 0, 21467, ..: dish 0 first, then 21467 by 7: 5.
+        // From 0 on X by 65536 is 0, 21468, ..: dish 0 first, then 21468 by 7: 6.
         x.dish(1, 20, 0);
         due("no day", x.sieges(0, 0), 0);
         due("dish 0 by wind 0", x.sieges(0, 1), 1);

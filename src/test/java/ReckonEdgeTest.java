@@ -13,6 +13,7 @@ public final class ReckonEdgeTest {
 
     public static void main(String[] args) {
         nothingChanged();
+        theLastOfAll();
         smells();
         falls();
         order();
@@ -34,6 +35,7 @@ public final class ReckonEdgeTest {
         fallsByWind();
         fallsLast();
         fallsNever();
+        fallsAnew();
         fallsOpen();
     }
 
@@ -42,6 +44,8 @@ public final class ReckonEdgeTest {
         rowOfFour();
         onceAtMost();
         oneEachDay();
+        oneEachPiousDay();
+        aGapInARow();
         fewestDays();
         leastButter();
         firstRow();
@@ -150,6 +154,32 @@ public final class ReckonEdgeTest {
             x.sieges(999999, 60);
             due("all", Towns.seen(x), Towns.seen(like));
         }
+    }
+
+    private static void theLastOfAll() {
+        sentence("STREETS 0 .. 7, DISHES 0 .. 5: the last dish, the last street");
+        plainStreets(8);
+        for (int i = 0; i < 7; i++) {
+            x.lane(i, i + 1);
+        }
+        for (int i = 0; i < 6; i++) {
+            x.dish(i % 5, 19 + i, i);
+        }
+        due("smells", x.smells(5, 3, 7), 10);
+        due("moved", x.moved(5, 7), 10);
+        due("falls", x.falls(5, 7), 1);
+        due("falls by the one ahead", x.falls(4, 7), NONE);
+        due("the row's dish", x.order(7, 0), 5);
+        due("its butter", x.order(7, BUTTER), 5);
+        due("never", x.never(), 0);
+        due("least", x.least(), 32);
+        due("by one sheet one is kept shut, wherever", x.answer(5, 1, 0), 0);
+        due("seven open then", x.answer(5, 1, 1), 7);
+        due("by nine in 0: 15, 13, 11, 9", x.answer(5, 9, 1), 3);
+        due("moved", x.moved(6, 7), BAD);
+        due("moved", x.moved(5, 8), BAD);
+        due("all open", x.day(5), 255);
+        due("the last since", x.of(7, 3), 0);
     }
 
     private static void noGate() {
@@ -271,8 +301,25 @@ public final class ReckonEdgeTest {
         due("a wall of 9", x.falls(0, 2), NONE);
         allGates(1);
         x.gate(3, 0);
-        x.dish(1, 7, 0);
-        due("from day 0: 3, 5, 7, none, 3 ..", x.falls(2, 1), NONE);
+        x.dish(1, 9, 0);
+        due("4, 6, 8, none, 4 ..", x.falls(2, 1), NONE);
+    }
+
+    private static void fallsAnew() {
+        sentence("FALLS: on a DAY on which the SMELL does not come it is smelt on none");
+        x.street(HOMESICK, 0, 5);
+        x.street(PLAIN, 0, 5);
+        x.gate(1, 1);
+        x.dish(1, 16, 0);
+        x.dish(1, 14, 0);
+        due("8, none, 8, 10", x.falls(0, 0), 4);
+        due("7, none, 7, 9, 11", x.falls(1, 0), 5);
+        x.gate(3, 1);
+        due("8, none, 8, none", x.falls(0, 0), NONE);
+        x.day(0);
+        due("one day ahead, but none now", x.falls(0, 0), NONE);
+        x.gate(1, 0);
+        due("one day ahead, and now", x.falls(0, 0), 1);
     }
 
     private static void fallsOpen() {
@@ -318,6 +365,15 @@ public final class ReckonEdgeTest {
         noRow();
         x.dish(1, 10, 9);
         row(9, 1);
+        x.town();
+        plainStreets(1);
+        dishesOf(5, 1, 9, 0);
+        x.dish(1, 10, 9);
+        row(9, 5);
+        x.town();
+        plainStreets(1);
+        x.dish(1, 10, 8);
+        row(8, 0);
     }
 
     private static void rowOfFour() {
@@ -363,6 +419,53 @@ public final class ReckonEdgeTest {
         row(15, 0, 2, 3, 1);
         days(1);
         row(6, 0, 2, 1);
+    }
+
+    private static void oneEachPiousDay() {
+        sentence("one each DAY from now on: on a pious one it does not open");
+        x.street(PIOUS, 0, 5);
+        x.street(PLAIN, 0, 5);
+        x.dish(1, 10, 1);
+        days(5);
+        noRow();
+        x.dish(2, 10, 2);
+        row(3, 0, 1);
+        x.gate(2, 1);
+        noRow();
+        x.dish(3, 1, 0);
+        x.dish(4, 1, 0);
+        // Day 5 is a pious one, on day 6 it blows elsewhere, on day 7 it opens.
+        row(1, 2, 3, 0);
+        x.gate(3, 1);
+        due("day 8 of wind 0", x.order(0, DAYS), 4);
+        x.town();
+        x.street(PIOUS, 0, 5);
+        x.street(PLAIN, 0, 5);
+        x.gate(0, 1);
+        dishesOf(2, 1, 10, 0);
+        days(4);
+        // Day 4 blows elsewhere, day 5 is a pious one.
+        noRow();
+        x.dish(1, 10, 0);
+        row(0, 0, 1, 2);
+    }
+
+    private static void aGapInARow() {
+        sentence("one each DAY from now on: where it does not come it is smelt on none");
+        x.street(HOMESICK, 0, 5);
+        x.street(PLAIN, 0, 5);
+        x.gate(1, 1);
+        x.gate(3, 1);
+        dishesOf(6, 1, 16, 1);
+        // 8, none, 8, none.
+        noRow();
+        x.gate(3, 0);
+        row(4, 0, 1, 2, 3);
+        x.day(0);
+        // None, 8, 10.
+        row(3, 0, 1, 2);
+        x.gate(1, 0);
+        row(1, 0);
     }
 
     private static void fewestDays() {

@@ -63,6 +63,7 @@ public final class StateEdgeTest {
     private static void whatThereIs() {
         ofAStreet();
         howMany();
+        lastCall();
     }
 
     private static void digests() {
@@ -568,6 +569,15 @@ public final class StateEdgeTest {
         for (long v : more) {
             values.add(v);
         }
+    }
+
+    private static void lastCall() {
+        sentence("An object is used for at most 512 calls");
+        x.street(PLAIN, 0, 5);
+        x.dish(1, 10, 0);
+        days(508);
+        due("call 511", x.day(0), 1);
+        due("call 512", x.of(0, 3), 508);
     }
 
     private static void digestOfNone() {

@@ -164,6 +164,7 @@ public final class TownEdgeTest {
         plainStreets(1);
         due("one in the place of an open one", x.of(0, 3), NONE);
         due("smelt nothing", x.of(0, 4), NONE);
+        due("on no day", x.of(0, 5), 0);
         x.dish(1, 30, 0);
         x.day(0);
         due("read", Towns.readOf(x, "town;street 0 0 0;"), 2);
