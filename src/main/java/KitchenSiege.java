@@ -49,10 +49,8 @@ public final class KitchenSiege {
         if (!within(kind, 0, KINDS - 1) || !within(wall, 0, MOST_WALL) || !within(craves, 0, SMELLS - 1)) {
             return bad();
         }
-        if (now.streets >= STREETS) {
-            return full();
-        }
-        return now.addStreet(kind, wall, craves);
+        int street = now.addStreet(kind, wall, craves);
+        return street == NONE ? full() : street;
     }
 
     public int lane(int a, int b) {
@@ -88,20 +86,16 @@ public final class KitchenSiege {
         if (!within(smell, 0, SMELLS - 1) || !within(strong, 1, MOST_STRONG) || !within(butter, 0, MOST_BUTTER)) {
             return bad();
         }
-        if (now.dishes >= DISHES) {
-            return full();
-        }
-        return now.addDish(smell, strong, butter);
+        int dish = now.addDish(smell, strong, butter);
+        return dish == NONE ? full() : dish;
     }
 
     public int type(int c) {
         if (!within(c, 0, LAST_BYTE)) {
             return bad();
         }
-        if (reader.length >= BYTES) {
-            return full();
-        }
-        return reader.put(c);
+        int bytes = reader.put(c);
+        return bytes == NONE ? full() : bytes;
     }
 
     public int clear() {
@@ -130,11 +124,7 @@ public final class KitchenSiege {
     }
 
     public int undo() {
-        if (now.undoable <= 0) {
-            return no();
-        }
-        now.goBack();
-        return now.days.day;
+        return now.goBack() ? now.days.day : no();
     }
 
     public int of(int street, int what) {
@@ -221,10 +211,8 @@ public final class KitchenSiege {
         if (!isStreet(street) || !within(smell, 0, SMELLS - 1) || !isNoted(strong, day) || !within(opened, 0, 1)) {
             return bad();
         }
-        if (now.notes.size >= NOTES) {
-            return full();
-        }
-        return now.notes.add(street, smell, strong, day, opened);
+        int notes = now.notes.add(street, smell, strong, day, opened);
+        return notes == NONE ? full() : notes;
     }
 
     public int forget() {
@@ -499,7 +487,11 @@ public final class KitchenSiege {
             System.arraycopy(other.opened, 0, opened, 0, NOTES);
         }
 
+        /** How many there are then; NONE if there is no room. */
         int add(int street, int smell, int strong, int day, int open) {
+            if (size >= NOTES) {
+                return NONE;
+            }
             streets[size] = street;
             smells[size] = smell;
             strengths[size] = strong;
@@ -632,7 +624,11 @@ public final class KitchenSiege {
             }
         }
 
+        /** Its number; NONE if there is no room. */
         int addStreet(int itsKind, int itsWall, int itCraves) {
+            if (streets >= STREETS) {
+                return NONE;
+            }
             int street = streets;
             kind[street] = itsKind;
             wall[street] = itsWall;
@@ -652,7 +648,11 @@ public final class KitchenSiege {
             beside[b] |= 1 << a;
         }
 
+        /** Its number; NONE if there is no room. */
         int addDish(int itsSmell, int itsStrong, int itsButter) {
+            if (dishes >= DISHES) {
+                return NONE;
+            }
             int dish = dishes;
             smell[dish] = itsSmell;
             strong[dish] = itsStrong;
@@ -663,6 +663,12 @@ public final class KitchenSiege {
 
         int windOn(int day) {
             return winds[Math.floorMod(day, WINDS)];
+        }
+
+        /** The street into which a wind blows first; NONE if it is not there. */
+        int gateOf(int w) {
+            int gate = isWind(w) ? gates[w] : NONE;
+            return within(gate, 0, streets - 1) ? gate : NONE;
         }
 
         int pull(int street, int dish, int strength, int day, int ahead) {
@@ -693,11 +699,14 @@ public final class KitchenSiege {
             undoable++;
         }
 
-        void goBack() {
-            if (undoable > 0) {
-                undoable--;
-                days.copy(past[undoable]);
+        /** Whether there was a day to go back to. */
+        boolean goBack() {
+            if (undoable <= 0) {
+                return false;
             }
+            undoable--;
+            days.copy(past[undoable]);
+            return true;
         }
 
         long mixStreets(long h) {
@@ -743,8 +752,8 @@ public final class KitchenSiege {
         /** The street that is hung may be NONE. */
         void fillWithSheets(Town town, int dish, int w, int hung, int sheets) {
             empty();
-            int gate = town.gates[w];
-            if (!within(gate, 0, town.streets - 1)) {
+            int gate = town.gateOf(w);
+            if (gate == NONE) {
                 return;
             }
             for (int street = 0; street < STREETS; street++) {
@@ -1145,11 +1154,13 @@ public final class KitchenSiege {
         private int token;
         private int value;
 
+        /** How many bytes there are then; NONE if there is no room. */
         int put(int c) {
-            if (length < BYTES) {
-                text[length] = c;
-                length++;
+            if (length >= BYTES) {
+                return NONE;
             }
+            text[length] = c;
+            length++;
             return length;
         }
 
