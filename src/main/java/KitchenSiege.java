@@ -667,8 +667,8 @@ public final class KitchenSiege {
 
         /** The street into which a wind blows first; NONE if it is not there. */
         int gateOf(int w) {
-            int gate = isWind(w) ? gates[w] : NONE;
-            return within(gate, 0, streets - 1) ? gate : NONE;
+            int gate = w >= 0 && w < WINDS ? gates[w] : NONE;
+            return gate < streets ? gate : NONE;
         }
 
         int pull(int street, int dish, int strength, int day, int ahead) {
@@ -753,7 +753,7 @@ public final class KitchenSiege {
         void fillWithSheets(Town town, int dish, int w, int hung, int sheets) {
             empty();
             int gate = town.gateOf(w);
-            if (gate == NONE) {
+            if (gate < 0) {
                 return;
             }
             for (int street = 0; street < STREETS; street++) {
